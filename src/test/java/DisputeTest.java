@@ -69,6 +69,12 @@ public final class DisputeTest {
         y.run(4096);
         CHECK.due("not qualified, and a lot that is won", verdicts(y, 0), 100100);
         CHECK.due("not opened", verdicts(y, 1), 10000);
+        BaleTenders w = Check.withLots(1);
+        w.bidder(false);
+        Check.bidOn(w, 0, 5, 0);
+        Check.sealAndOpen(w, 0);
+        w.run(4096);
+        CHECK.due("not qualified alone", verdicts(w, 0), 100000);
         BaleTenders z = Check.withLots(2);
         z.bidder(true);
         Check.bidOn(z, 0, 5, 0);
