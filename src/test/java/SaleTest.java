@@ -348,7 +348,7 @@ public final class SaleTest {
             Check.bidOn(x, b % 6, 100000000L, b % 8);
         }
         openAll(x, 6);
-        for (int again = 0; again < 400; again++) {
+        for (int again = 0; again < 300; again++) {
             CHECK.due("run", x.run(4096), 8);
         }
         CHECK.due("sum", x.sum(), 800000000L);
